@@ -1511,10 +1511,11 @@ public final class BonnetValley {
             return state.known();
         }
 
+        /** Whoever has nothing new to tell is passed over first, since looking is dear over many HOURS. */
         private int learnedBy(State state, int person) {
             int bits = state.knows[person] | state.thingsOn(view[person]);
             for (int i = 0; i < state.persons; i++) {
-                if (i != person && tell(state, person, i)) {
+                if ((state.knows[i] & ~bits) != 0 && tell(state, person, i)) {
                     bits |= state.knows[i];
                 }
             }

@@ -24,6 +24,11 @@ public final class ValleyTest {
             Check.due("new: count(" + what + ")", c.v.count(what), want[what]);
         }
         Check.due("NONE", BonnetValley.NONE, -1);
+        for (int i = 0; i < 3; i++) {
+            Check.due("new: again(" + i + ")", c.v.again(i), false);
+        }
+        Check.due("new: undo", c.v.undo(), -1);
+        Check.due("new: hidden", c.v.hidden(), 511);
     }
 
     private static void signAndEnd() {
