@@ -620,12 +620,12 @@ public final class BonnetValley {
     // ---- storms, a game
 
     public int storm(int field, int k, int p) {
-        if (!land.holds(field) || k < 0 || k > MOST_PEOPLE || p < 0 || p > 10) {
+        if (!land.holds(field) || k < 0 || k > MOST_PEOPLE || p < 0 || p > Games.TENTHS) {
             return NONE;
         }
         games.startStorm();
         for (int i = 0; i < now.persons; i++) {
-            int kept = hasField(sight.viewOf(now, i), field) ? 10 - p : 0;
+            int kept = hasField(sight.viewOf(now, i), field) ? Games.TENTHS - p : 0;
             int bare = hasField(sight.viewUnder(now, i, 0), field) ? p : 0;
             games.addLooker(kept + bare);
         }
@@ -634,7 +634,7 @@ public final class BonnetValley {
     }
 
     public int cock(int n, int k) {
-        if (n < 0 || n > 60 || k < 2 || k > 9) {
+        if (n < 0 || n > Games.MOST_OFF || k < Games.LEAST_TURNS || k > Games.MOST_TURNS) {
             return NONE;
         }
         return games.winningTurn(n, k);
@@ -655,7 +655,7 @@ public final class BonnetValley {
     }
 
     public int rests(int v) {
-        if (v < 0 || v > 20) {
+        if (v < 0 || v > Games.MOST_WORTH) {
             return NONE;
         }
         return games.restingPairs(v, told.anew());
@@ -987,7 +987,7 @@ public final class BonnetValley {
             for (int i = 1; i < far; i++) {
                 int row = rowOf[from] + Math.max(-i, Math.min(i, down));
                 int column = columnOf[from] + Math.max(-i, Math.min(i, right));
-                if (isRock(row * columns + column)) {
+                if ((rocks >> row * columns + column & 1L) == 1L) {
                     return false;
                 }
             }
@@ -1874,7 +1874,11 @@ public final class BonnetValley {
 
     /** Storms, the weathercock, gifts and draws. */
     private static final class Games {
+        private static final int TENTHS = 10;
         private static final int MOST_OFF = 60;
+        private static final int LEAST_TURNS = 2;
+        private static final int MOST_TURNS = 9;
+        private static final int MOST_WORTH = 20;
         private static final int MOST_ELLS = 9;
         /** Far more than two numbers up to 10 to the 8th need. */
         private static final int MOST_DIVISIONS = 1000;
@@ -1900,10 +1904,10 @@ public final class BonnetValley {
         /** One more, who SEES by so many tenths. */
         void addLooker(int tenths) {
             for (int k = MOST_PEOPLE; k > 0; k--) {
-                chance[k] = chance[k] * (10 - tenths) + chance[k - 1] * tenths;
+                chance[k] = chance[k] * (TENTHS - tenths) + chance[k - 1] * tenths;
             }
-            chance[0] *= 10 - tenths;
-            parts *= 10;
+            chance[0] *= TENTHS - tenths;
+            parts *= TENTHS;
         }
 
         void tellChance(int atLeast, Numbers row) {
