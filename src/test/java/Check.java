@@ -5,6 +5,7 @@ import java.util.NoSuchElementException;
 final class Check {
     private static int wrong = 0;
     private static int checks = 0;
+    private static String about = "";
 
     final BonnetValley v = new BonnetValley();
 
@@ -12,7 +13,7 @@ final class Check {
         checks++;
         if (got != want) {
             wrong++;
-            System.out.println(what + " answered " + got + ", due is " + want);
+            System.out.println(about + what + " answered " + got + ", due is " + want);
         }
     }
 
@@ -28,6 +29,22 @@ final class Check {
         }
     }
 
+    /**
+     * A sentence of the document, as it stands there (of promise 0: of the terms), with a test of its own
+     * that would fail if the sentence did not hold.
+     */
+    static void sentence(int promise, String words, Runnable test) {
+        int ahead = checks;
+        about = (promise == 0 ? "Terms" : "Promise " + promise) + ", '" + words + "': ";
+        try {
+            test.run();
+        } catch (RuntimeException e) {
+            due("what was thrown, " + e + ",", 1, 0);
+        }
+        due("whether there is a test", checks > ahead, true);
+        about = "";
+    }
+
     interface Call {
         long answer();
     }
@@ -37,7 +54,7 @@ final class Check {
         try {
             call.answer();
         } catch (NoSuchElementException e) {
-            thrown = true;
+            thrown = e.getClass() == NoSuchElementException.class;
         }
         due(what + " throws", thrown, true);
     }
@@ -67,6 +84,23 @@ final class Check {
             due(what + ": row(" + i + ")", v.row(i), want[i]);
         }
         throwsNoSuch(what + ": row(" + want.length + ")", () -> v.row(want.length));
+    }
+
+    /** The call answers so for each of these arguments. */
+    interface OfOne {
+        long answer(int x);
+    }
+
+    static void each(String name, OfOne call, long want, int... arguments) {
+        for (int x : arguments) {
+            due(name + "(" + x + ")", call.answer(x), want);
+        }
+    }
+
+    static void eachThrows(String name, OfOne call, int... arguments) {
+        for (int x : arguments) {
+            throwsNoSuch(name + "(" + x + ")", () -> call.answer(x));
+        }
     }
 
     void valley(String s, long want) {
@@ -102,6 +136,14 @@ final class Check {
     void day(String s, long want) {
         due("day " + s, text(s).v.day(), want);
         due("day " + s + " empties THE TEXT", v.count(12), 0);
+    }
+
+    /** FACING, BRIM and the like of all PEOPLE, by their number. */
+    void people(int what, long... want) {
+        due("PEOPLE", v.count(2), want.length);
+        for (int i = 0; i < want.length; i++) {
+            due("person(" + i + ", " + what + ")", v.person(i, what), want[i]);
+        }
     }
 
     /** A fresh valley with people and things in it. */
