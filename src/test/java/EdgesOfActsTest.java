@@ -13,6 +13,7 @@ public final class EdgesOfActsTest {
         day();
         daySigns();
         undo();
+        undoEach();
         undoForgets();
         Check.close("EdgesOfActsTest");
     }
@@ -347,6 +348,84 @@ public final class EdgesOfActsTest {
             Check.due("none left", c.v.undo(), -1);
             c.people(1, 0);
         });
+    }
+
+    /** One act of each kind, and what undo() has to bring back of it. */
+    private static void undoEach() {
+        Check.sentence(18, "The latest hours(), faces(), steps(), trims(), puts() or day()", () -> {
+            Check c = Check.made(SMALL, "1131;0042", "00;22");
+            String[] stages = new String[9];
+            stages[0] = seen(c);
+            c.v.trims(0, 3);
+            stages[1] = seen(c);
+            c.v.steps(1, 2);
+            stages[2] = seen(c);
+            c.v.puts(1, 3);
+            stages[3] = seen(c);
+            c.v.faces(1, 7);
+            stages[4] = seen(c);
+            c.v.hours(2);
+            stages[5] = seen(c);
+            c.v.steps(0, 0);
+            stages[6] = seen(c);
+            Twin.read(c.v, "f12b00", BonnetValley::day);
+            stages[7] = seen(c);
+            c.v.trims(1, 4);
+            for (int left = 7; left >= 0; left--) {
+                Check.due("left", c.v.undo(), left);
+                Check.due(seen(c) + " is as it was: " + stages[left], seen(c).equals(stages[left]), true);
+            }
+            Check.due("none left", c.v.undo(), -1);
+        });
+        Check.sentence(18, "how many are left that can be", () -> {
+            Check c = Check.made(SMALL, "1100", "00");
+            // each alone, behind one that was refused
+            c.v.steps(0, 9);
+            c.v.steps(0, 3);
+            Check.due("steps", c.v.undo(), 0);
+            c.people(0, 4);
+            c.v.trims(0, 9);
+            c.v.trims(0, 2);
+            Check.due("trims", c.v.undo(), 0);
+            c.people(2, 0);
+            c.v.faces(0, 9);
+            c.v.faces(0, 5);
+            Check.due("faces", c.v.undo(), 0);
+            c.people(1, 0);
+            c.v.puts(0, 9);
+            c.v.puts(0, 8);
+            Check.due("puts", c.v.undo(), 0);
+            Check.due("THING", c.v.thing(0, 0), 0);
+            c.v.hours(61);
+            c.v.hours(60);
+            Check.due("hours", c.v.undo(), 0);
+            Check.due("HOUR", c.v.count(4), 0);
+            c.people(3, 0);
+            // what was undone makes room for what comes then
+            c.v.hours(1);
+            c.v.hours(1);
+            c.v.undo();
+            c.v.faces(0, 1);
+            Check.due("of two", c.v.undo(), 1);
+            Check.due("HOUR", c.v.count(4), 1);
+            Check.due("of one", c.v.undo(), 0);
+            Check.due("HOUR", c.v.count(4), 0);
+        });
+    }
+
+    /** All that undo() brings back. */
+    private static String seen(Check c) {
+        StringBuilder s = new StringBuilder("HOUR " + c.v.count(4));
+        for (int i = 0; i < c.v.count(2); i++) {
+            s.append("; ").append(i).append(':');
+            for (int what = 0; what <= 3; what++) {
+                s.append(' ').append(c.v.person(i, what));
+            }
+        }
+        for (int i = 0; i < c.v.count(3); i++) {
+            s.append("; THING ").append(c.v.thing(i, 0));
+        }
+        return s.toString();
     }
 
     private static void undoForgets() {

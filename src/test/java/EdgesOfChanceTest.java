@@ -46,6 +46,17 @@ public final class EdgesOfChanceTest {
             chance(c, 4, 1, 10, 0, 1);
             chance(c, 0, 2, 10, 1, 1);
             c.people(2, 4, 4);
+            // by LIGHT 3 and BRIM 0 one SEES as far as 3 and no farther, and what is behind, too
+            Check ahead = Check.made("35" + ".".repeat(15), "0022", "");
+            ahead.light("3", 1);
+            chance(ahead, 1, 1, 0, 1, 1);
+            chance(ahead, 3, 1, 0, 0, 1);
+            chance(ahead, 3, 1, 7, 7, 10);
+            chance(ahead, 4, 1, 10, 0, 1);
+            Check behind = Check.made("35" + ".".repeat(15), "1424", "");
+            behind.light("3", 1);
+            chance(behind, 6, 1, 4, 2, 5);
+            chance(behind, 5, 1, 10, 0, 1);
         });
         Check.sentence(40, "how likely k (0 .. 8) PEOPLE or more SEE a FIELD then: 0; the ROW: the fraction", () -> {
             Check c = Check.made(SMALL, EIGHT, "");

@@ -164,6 +164,20 @@ public final class EdgesOfLooksTest {
             Check last = Check.made(SMALL, "0004;0004;0004;0004;0004;0004;0004;1100", "");
             Check.due("the last alone", last.v.watch(), 1);
             last.row("the last alone", 128);
+            // one of four SEES nothing that the first of the others does not SEE
+            String[] others = {"1113", "1134", "1154"};
+            for (int idle = 0; idle < 4; idle++) {
+                StringBuilder people = new StringBuilder();
+                for (int i = 0; i < 4; i++) {
+                    people.append(i > 0 ? ";" : "").append(i == idle ? "1114" : others[i < idle ? i : i - 1]);
+                }
+                Check three = Check.made(SMALL, people.toString(), "");
+                Check.due("three of four", three.v.watch(), 3);
+                three.row("all but " + idle, 15 - (1 << idle));
+                three.v.trims(idle == 0 ? 1 : 0, 4);
+                Check.due("two of whom are alike", three.v.watch(), 3);
+                three.row("the least of both", idle < 2 ? 13 : 15 - (1 << idle));
+            }
             // 0 and 4 SEE all above, 3 and 5 all below, 1 and 2 their own FIELD
             Check two = Check.made("33...###...", "0024;0064;2224;2024;0264;2264", "");
             Check.due("two", two.v.watch(), 2);

@@ -24,9 +24,9 @@ public final class EdgesOfSearchTest {
 
     private static void eighths() {
         Check.sentence(30, "FACING then (of as few the least number)", () -> {
-            Check c = Check.made(SMALL, "1100", "");
             int[] off = {0, 1, 2, 3, 4, 3, 2, 1};
             for (int facing = 0; facing < 8; facing++) {
+                Check c = Check.made(SMALL, "1100", "");
                 for (int brim = 0; brim <= 4; brim++) {
                     c.v.faces(0, facing);
                     c.v.trims(0, brim);

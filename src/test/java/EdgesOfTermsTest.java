@@ -25,6 +25,7 @@ public final class EdgesOfTermsTest {
             Check.due("ROWS at first", c.v.count(0), 3);
             Check.due("COLUMNS at first", c.v.count(1), 3);
             for (int r = 2; r <= 8; r++) {
+                c = new Check();
                 for (int k = 2; k <= 8; k++) {
                     boolean fits = r > 2 && r < 8 && k > 2 && k < 8;
                     c.valley("" + r + k + ".".repeat(r * k), fits ? r * k : r > 2 && r < 8 ? -2 : -1);
@@ -138,6 +139,15 @@ public final class EdgesOfTermsTest {
         Check.sentence(0, "< > = bind least (two; 1 or 0; not one behind the other)", () -> {
             Check c = Check.made(SMALL, "0000", "");
             reach(c, "1+1<3", 1);
+            // 1 or 0, which the 3 behind tells from what is below 0 or above 9
+            String[] no = {"5<5", "5<4", "5>5", "5>6", "5=4", "5=6", "-5=5"};
+            for (String s : no) {
+                reach(c, "(" + s + ")*5+3", 3);
+            }
+            String[] yes = {"5<6", "-5<5", "5>4", "5>-5", "5=5", "--5=5"};
+            for (String s : yes) {
+                reach(c, "(" + s + ")*5+3", 8);
+            }
             reach(c, "3>1+1", 1);
             reach(c, "2*3=6", 1);
             reach(c, "2*3<6", 0);
@@ -145,6 +155,7 @@ public final class EdgesOfTermsTest {
             reach(c, "5-(2=3)", 5);
             reach(c, "(1<2)=(2<3)", 1);
             for (String a : new String[] {"<", ">", "="}) {
+                c = new Check();
                 c.rule(a + "1", -1);
                 c.rule("1" + a, -3);
                 for (String b : new String[] {"<", ">", "="}) {
@@ -193,6 +204,8 @@ public final class EdgesOfTermsTest {
             reach(c, "((((4)+(1))))", 5);
             reach(c, "(1)+(1)+(1)+(1)+(1)+(1)", 6);
             reach(c, "((((1))))+((((2))))", 3);
+            reach(c, "((((1<2))))+((((7-2))))", 6);
+            reach(c, "((((2*3)-1)-1)-1)-(((1)))", 2);
             c.rule("(((((4)))))", -5);
             c.rule("((((4))+((4)))))", -16);
             c.rule("(((4)+(((4)))))", -9);
@@ -409,6 +422,47 @@ public final class EdgesOfTermsTest {
                 Check.due(place, c.v.pairs(), 1);
                 c.row(place, 0, 0, 1);
             }
+        });
+        Check.sentence(0, "each KNOWS what the other one KNOWS, too", () -> {
+            // each in turn is the one who KNOWS, and all others hear of it in one HOUR
+            for (int knower = 0; knower < 8; knower++) {
+                StringBuilder s = new StringBuilder();
+                for (int i = 0; i < 8; i++) {
+                    s.append(i > 0 ? ";" : "").append(i == knower ? "0000" : "0100");
+                }
+                Check c = Check.made(SMALL, s.toString(), "00");
+                c.rule("0", 0);
+                c.v.hours(1);
+                Check.due(knower + " alone", c.v.thing(0, 1), 1 << knower);
+                c.rule("1", 0);
+                c.v.puts(0, 8);
+                c.light("1", 1);
+                for (int i = 0; i < 8; i++) {
+                    c.v.faces(i, i == knower ? 2 : 6);
+                }
+                c.v.hours(1);
+                Check.due(knower + " tells all", c.v.thing(0, 1), 255);
+            }
+            // both ways at once, and of all that each KNOWS
+            Check c = Check.made(SMALL, "0000;2200", "00;00;22");
+            c.rule("0", 0);
+            c.v.hours(1);
+            c.people(3, 3, 4);
+            c.v.steps(1, 7);
+            c.rule("1", 0);
+            c.v.hours(1);
+            c.people(3, 7, 7);
+        });
+        Check.sentence(0, "of two that SEE each other's FIELDS", () -> {
+            // side by side: who is looked at alone hears nothing, and tells nothing
+            Check c = Check.made(SMALL, "1024;1124", "10");
+            c.v.hours(1);
+            c.people(3, 1, 0);
+            c.v.hours(60);
+            c.people(3, 1, 0);
+            c.v.faces(1, 6);
+            c.v.hours(1);
+            c.people(3, 1, 1);
         });
         Check.sentence(0, "all as it is ahead of it", () -> {
             // three beside each other: who SEES a THING in an HOUR tells of it in the next one

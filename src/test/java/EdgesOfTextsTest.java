@@ -433,5 +433,27 @@ public final class EdgesOfTextsTest {
             c.rule(forty, 0);
             Check.due("40 signs", c.v.person(0, 4), 9);
         });
+        Check.sentence(8, "-1 - p: the sign at p can't stand there", () -> {
+            // what a refused text began is nothing to the next one, neither to THE RULE that stays
+            String[] begun = {"-", "--", "9-", "9*-", "(", "((((", "(1<", "1<", "123x", "1<2<", "(((((", "1+(2-(3*"};
+            for (String s : begun) {
+                Check c = Check.made(SMALL, "0001", "");
+                c.rule("4", 0);
+                Twin.read(c.v, s, BonnetValley::rule);
+                Check.due("THE RULE behind " + s, c.v.person(0, 4), 4);
+                c.rule("5<6", 0);
+                Check.due("5<6 behind " + s, c.v.person(0, 4), 1);
+                Twin.read(c.v, s, BonnetValley::rule);
+                c.rule("((((7))))", 0);
+                Check.due("((((7)))) behind " + s, c.v.person(0, 4), 7);
+                Twin.read(c.v, s, BonnetValley::law);
+                c.rule("345-340", 0);
+                Check.due("345-340 behind " + s, c.v.person(0, 4), 5);
+                Twin.read(c.v, s, BonnetValley::law);
+                c.law("2", 0);
+                c.row("by REACH 2, by REACH 5", 7, 7);
+                Check.due("THE RULE behind laws", c.v.person(0, 4), 5);
+            }
+        });
     }
 }

@@ -5,14 +5,18 @@ import java.util.Random;
 
 /** Runs of calls drawn by seeds, each answered by the class and by the Oracle: all promises at once. */
 public final class OracleTest {
-    private static final int RUNS = 700;
-    private static final int CALLS = 500;
+    private static final int RUNS = 3000;
+    /** What an object answers after that is free. */
+    private static final int CALLS = 512;
+    /** As many as one more turn of a run can need: a text of 80 signs, a call, and a ROW of all FIELDS. */
+    private static final int DEAREST = 80;
 
     private final Random random;
     private final BonnetValley v = new BonnetValley();
     private final Oracle o = new Oracle();
     private final List<String> log = new ArrayList<>();
     private boolean differs = false;
+    private int used = 0;
 
     private OracleTest(long seed) {
         random = new Random(seed);
@@ -25,7 +29,7 @@ public final class OracleTest {
         for (int seed = start; seed < start + runs; seed++) {
             OracleTest t = new OracleTest(seed);
             t.start();
-            for (int i = 0; i < CALLS && !t.differs; i++) {
+            while (t.used + DEAREST <= CALLS && !t.differs) {
                 t.call();
             }
             if (t.differs) {
@@ -55,6 +59,7 @@ public final class OracleTest {
     private void both(String name, Call mine, Call due) {
         String got = outcome(mine);
         String want = outcome(due);
+        used += 2 + o.told.size();
         log.add(name + " " + got + (got.equals(want) ? "" : ", due is " + want));
         differs |= !got.equals(want);
         if (v.count(11) != o.told.size()) {
@@ -103,6 +108,7 @@ public final class OracleTest {
         log.add("text " + s);
         v.end(0);
         Check.put(v, s);
+        used += 2 + (s.length() + 3) / 4;
         o.text.setLength(0);
         o.text.append(s);
     }

@@ -7,6 +7,8 @@ final class Twin {
         long of(BonnetValley v);
     }
 
+    private static final int PARTS = 3;
+
     private Twin() {
     }
 
@@ -40,35 +42,62 @@ final class Twin {
 
     /** The call answers so and changes nothing, the ROW neither. */
     static void changesNothing(String name, Call call, long want) {
-        BonnetValley one = busy();
-        BonnetValley other = busy();
-        Check.due(name, call.of(other), want);
-        compare(name, all(one, true), all(other, true));
+        for (int part = 0; part < PARTS; part++) {
+            BonnetValley one = busy();
+            BonnetValley other = busy();
+            Check.due(name, call.of(other), want);
+            compare(name, all(one, part, true), all(other, part, true));
+        }
     }
 
     /** Likewise, and it throws. */
     static void throwsAndChangesNothing(String name, Call call) {
-        BonnetValley one = busy();
-        BonnetValley other = busy();
-        Check.throwsNoSuch(name, () -> call.of(other));
-        compare(name, all(one, true), all(other, true));
+        for (int part = 0; part < PARTS; part++) {
+            BonnetValley one = busy();
+            BonnetValley other = busy();
+            Check.throwsNoSuch(name, () -> call.of(other));
+            compare(name, all(one, part, true), all(other, part, true));
+        }
     }
 
     /** The call changes nothing but the ROW. */
     static void asksOnly(String name, Call call) {
-        BonnetValley one = busy();
-        BonnetValley other = busy();
-        Check.due(name + " has an answer", call.of(other) >= 0, true);
-        compare(name, all(one, false), all(other, false));
+        for (int part = 0; part < PARTS; part++) {
+            BonnetValley one = busy();
+            BonnetValley other = busy();
+            Check.due(name + " has an answer", call.of(other) >= 0, true);
+            compare(name, all(one, part, false), all(other, part, false));
+        }
     }
 
     private static void compare(String name, List<Long> one, List<Long> other) {
         Check.due(name + " changes something: " + one + " to " + other, one.equals(other), true);
     }
 
-    /** All that can be seen of an object from outside; it is used up by that. */
-    static List<Long> all(BonnetValley v, boolean withRow) {
+    /**
+     * All that can be seen of an object from outside. It is used up by that, and what it answers after 512 calls is
+     * free: so it is seen in parts, each of an object of its own.
+     */
+    private static List<Long> all(BonnetValley v, int part, boolean withRow) {
         List<Long> seen = new ArrayList<>();
+        if (part == 0) {
+            addNow(v, seen, withRow);
+        } else if (part == 1) {
+            for (int i = 0; i < 16; i++) {
+                seen.add((long) v.undo());
+                addState(v, seen);
+            }
+        } else {
+            for (int i = 0; i < 3; i++) {
+                seen.add(v.again(i) ? 1L : 0L);
+                addState(v, seen);
+            }
+            addHours(v, seen);
+        }
+        return seen;
+    }
+
+    private static void addNow(BonnetValley v, List<Long> seen, boolean withRow) {
         int numbers = v.count(11);
         for (int i = 0; withRow && i < numbers; i++) {
             seen.add(v.row(i));
@@ -78,38 +107,32 @@ final class Twin {
         }
         seen.add(v.lost());
         addState(v, seen);
-        for (int i = 0; i < 16; i++) {
-            seen.add((long) v.undo());
-            addState(v, seen);
-        }
-        for (int i = 0; i < 3; i++) {
-            seen.add(v.again(i) ? 1L : 0L);
-            addState(v, seen);
-        }
-        // LIGHT has 20 signs at most: in so many HOURS all of it is seen, and by it THE RULE
+        addHours(v, seen);
+    }
+
+    /** LIGHT has 20 signs at most: in so many HOURS all of it is seen, and by it THE RULE. */
+    private static void addHours(BonnetValley v, List<Long> seen) {
+        int people = v.count(2);
         for (int hour = 0; hour < 20; hour++) {
             v.hours(1);
             seen.add((long) v.count(5));
-            for (int i = 0; i < v.count(2); i++) {
+            for (int i = 0; i < people; i++) {
                 seen.add((long) v.person(i, 4));
             }
         }
-        return seen;
     }
 
     private static void addState(BonnetValley v, List<Long> seen) {
+        int people = v.count(2);
+        int things = v.count(3);
         seen.add((long) v.count(4));
-        for (int i = 0; i < v.count(2); i++) {
+        for (int i = 0; i < people; i++) {
             for (int what = 0; what <= 4; what++) {
                 seen.add((long) v.person(i, what));
             }
         }
-        for (int i = 0; i < v.count(3); i++) {
+        for (int i = 0; i < things; i++) {
             seen.add((long) v.thing(i, 0));
         }
-    }
-
-    static long bit(boolean b) {
-        return b ? 1 : 0;
     }
 }
