@@ -366,6 +366,12 @@ public final class EdgesOfSearchTest {
             Check one = Check.made(SMALL, "1100", "");
             Check.due("who SEES all", one.v.asks(), 0);
             one.row("who SEES all", 9);
+            Check full = Check.made(WIDE, "3300", "");
+            Check.due("who SEES all 49", full.v.asks(), 0);
+            full.row("who SEES all 49", 49);
+            full.light("0", 1);
+            Check.due("who SEES one of 49", full.v.asks(), 0);
+            full.row("who SEES one of 49", 48);
             // whoever SEES all of them tells as little as who SEES none
             Check two = Check.made(SMALL, "1100;0064", "");
             Check.due("all but one", two.v.asks(), 1);
