@@ -163,7 +163,7 @@ public final class BonnetValley {
         if (n < 0) {
             return WITHOUT;
         }
-        for (int i = 0; i < now.persons; i++) {
+        for (int i = 0; i < now.persons && i < MOST_PEOPLE; i++) {
             now.brim[i] = i < n ? sheetEntry(kind, f + i * step) : 0;
         }
         return now.brims();
@@ -433,7 +433,7 @@ public final class BonnetValley {
         trial.copy(now);
         int known = sight.pass(trial, n);
         told.anew();
-        for (int i = 0; i < trial.persons; i++) {
+        for (int i = 0; i < trial.persons && i < MOST_PEOPLE; i++) {
             told.add(trial.knows[i]);
         }
         return known;
@@ -527,6 +527,9 @@ public final class BonnetValley {
     }
 
     private long viewFacing(int person, int facing, int reach) {
+        if (!now.hasPerson(person)) {
+            return 0;
+        }
         return land.view(now.field[person], facing, now.brim[person], reach);
     }
 
@@ -1074,7 +1077,7 @@ public final class BonnetValley {
 
         int known() {
             int sum = 0;
-            for (int i = 0; i < persons; i++) {
+            for (int i = 0; i < persons && i < MOST_PEOPLE; i++) {
                 sum += Integer.bitCount(knows[i]);
             }
             return sum;
@@ -1082,7 +1085,7 @@ public final class BonnetValley {
 
         int knownBySomebody() {
             int bits = 0;
-            for (int i = 0; i < persons; i++) {
+            for (int i = 0; i < persons && i < MOST_PEOPLE; i++) {
                 bits |= knows[i];
             }
             return bits;
@@ -1090,14 +1093,14 @@ public final class BonnetValley {
 
         int knowersOf(int thing) {
             int bits = 0;
-            for (int i = 0; i < persons; i++) {
+            for (int i = 0; i < persons && i < MOST_PEOPLE; i++) {
                 bits |= (knows[i] >> thing & 1) << i;
             }
             return bits;
         }
 
         int firstWhoLacks() {
-            for (int i = 0; i < persons; i++) {
+            for (int i = 0; i < persons && i < MOST_PEOPLE; i++) {
                 if (knows[i] != (1 << goods) - 1) {
                     return i;
                 }
@@ -1107,7 +1110,7 @@ public final class BonnetValley {
 
         int brims() {
             int sum = 0;
-            for (int i = 0; i < persons; i++) {
+            for (int i = 0; i < persons && i < MOST_PEOPLE; i++) {
                 sum += brim[i];
             }
             return sum;
@@ -1115,7 +1118,7 @@ public final class BonnetValley {
 
         int peopleOn(long fields) {
             int bits = 0;
-            for (int i = 0; i < persons; i++) {
+            for (int i = 0; i < persons && i < MOST_PEOPLE; i++) {
                 bits |= (int) (fields >> field[i] & 1L) << i;
             }
             return bits;
@@ -1123,7 +1126,7 @@ public final class BonnetValley {
 
         int thingsOn(long fields) {
             int bits = 0;
-            for (int i = 0; i < goods; i++) {
+            for (int i = 0; i < goods && i < MOST_THINGS; i++) {
                 bits |= (int) (fields >> place[i] & 1L) << i;
             }
             return bits;
@@ -1222,7 +1225,7 @@ public final class BonnetValley {
                 return true;
             }
             if (c == '(') {
-                if (depth >= MOST_BRACKETS) {
+                if (depth < 0 || depth >= MOST_BRACKETS) {
                     return false;
                 }
                 depth++;
@@ -1309,7 +1312,7 @@ public final class BonnetValley {
 
         int value(int[] given) {
             int top = 0;
-            for (int i = 0; i < size; i++) {
+            for (int i = 0; i < size && i < MOST_SIGNS; i++) {
                 int x = code[i];
                 if (x >= 0 && top < MOST_SIGNS) {
                     boolean isLetter = x >= LETTER && x - LETTER < given.length;
@@ -1439,7 +1442,7 @@ public final class BonnetValley {
 
         long lookBy(Formula formula, State state) {
             long seen = 0;
-            for (int i = 0; i < state.persons; i++) {
+            for (int i = 0; i < state.persons && i < MOST_PEOPLE; i++) {
                 int reach = reachBy(formula, state, i, state.brim[i]);
                 view[i] = land.view(state.field[i], state.facing[i], state.brim[i], reach);
                 seen |= view[i];
@@ -1453,7 +1456,7 @@ public final class BonnetValley {
 
         long viewTogether(State state, int who) {
             long seen = 0;
-            for (int i = 0; i < state.persons; i++) {
+            for (int i = 0; i < state.persons && i < MOST_PEOPLE; i++) {
                 if ((who >> i & 1) == 1) {
                     seen |= view[i];
                 }
@@ -1463,7 +1466,7 @@ public final class BonnetValley {
 
         int seersOf(State state, int field) {
             int bits = 0;
-            for (int i = 0; i < state.persons; i++) {
+            for (int i = 0; i < state.persons && i < MOST_PEOPLE; i++) {
                 bits |= (int) (view[i] >> field & 1L) << i;
             }
             return bits;
@@ -1502,10 +1505,12 @@ public final class BonnetValley {
         int pass(State state, int hours) {
             for (int h = 0; h < hours; h++) {
                 lookBy(rule, state);
-                for (int i = 0; i < state.persons; i++) {
+                for (int i = 0; i < state.persons && i < MOST_PEOPLE; i++) {
                     learned[i] = learnedBy(state, i);
                 }
-                System.arraycopy(learned, 0, state.knows, 0, state.persons);
+                for (int i = 0; i < state.persons && i < MOST_PEOPLE; i++) {
+                    state.knows[i] = learned[i];
+                }
                 state.hour++;
             }
             return state.known();
@@ -1514,7 +1519,7 @@ public final class BonnetValley {
         /** Whoever has nothing new to tell is passed over first, since looking is dear over many HOURS. */
         private int learnedBy(State state, int person) {
             int bits = state.knows[person] | state.thingsOn(view[person]);
-            for (int i = 0; i < state.persons; i++) {
+            for (int i = 0; i < state.persons && i < MOST_PEOPLE; i++) {
                 if ((state.knows[i] & ~bits) != 0 && tell(state, person, i)) {
                     bits |= state.knows[i];
                 }
@@ -1683,11 +1688,12 @@ public final class BonnetValley {
         }
 
         int kind(int i) {
-            return i >= 0 && i < acts ? kind[i] : NONE;
+            return i >= 0 && i < acts && i < MOST_ACTS ? kind[i] : NONE;
         }
 
         int digit(int i, int d) {
-            return i >= 0 && i < acts && d >= 0 && d < DIGITS ? digit[i * DIGITS + d] : NONE;
+            boolean told = i >= 0 && i < acts && i < MOST_ACTS && d >= 0 && d < DIGITS;
+            return told ? digit[i * DIGITS + d] : NONE;
         }
 
         /** The place of the sign that can't stand there, or below 0. */
@@ -1835,10 +1841,11 @@ public final class BonnetValley {
         /** How many to turn, or NONE: need tells it for those from one on, by THINGS SEEN by those ahead. */
         int fewest(State state) {
             int full = (1 << state.goods) - 1 & SETS - 1;
+            int persons = Math.max(0, Math.min(MOST_PEOPLE, state.persons));
             for (int things = 0; things <= full; things++) {
-                need[state.persons * SETS + things] = things == full ? 0 : NEVER;
+                need[persons * SETS + things] = things == full ? 0 : NEVER;
             }
-            for (int i = state.persons - 1; i >= 0; i--) {
+            for (int i = persons - 1; i >= 0; i--) {
                 for (int things = 0; things <= full; things++) {
                     need[i * SETS + things] = least(state, i, things);
                 }
@@ -1861,7 +1868,7 @@ public final class BonnetValley {
 
         void tellLeast(State state, Numbers row) {
             int things = 0;
-            for (int i = 0; i < state.persons; i++) {
+            for (int i = 0; i < state.persons && i < MOST_PEOPLE; i++) {
                 int v = 0;
                 while (v < WAYS - 1 && withFacing(state, i, things, v) != need[i * SETS + things]) {
                     v++;

@@ -42,6 +42,7 @@ final class Check {
             due("what was thrown, " + e + ",", 1, 0);
         }
         due("whether there is a test", checks > ahead, true);
+        due("whether the document says so there", Document.says(promise, words), true);
         about = "";
     }
 

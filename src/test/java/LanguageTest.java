@@ -6,6 +6,8 @@ import java.lang.reflect.Constructor;
 import java.lang.reflect.Field;
 import java.lang.reflect.Method;
 import java.lang.reflect.Modifier;
+import java.nio.file.Files;
+import java.nio.file.Path;
 import java.util.ArrayDeque;
 import java.util.ArrayList;
 import java.util.Arrays;
@@ -15,6 +17,8 @@ import java.util.List;
 import java.util.Map;
 import java.util.Set;
 import java.util.TreeSet;
+import java.util.regex.Matcher;
+import java.util.regex.Pattern;
 
 /** What can be seen from outside of LANGUAGE.md's rules, and of the room that a run has. */
 public final class LanguageTest {
@@ -32,6 +36,11 @@ public final class LanguageTest {
         "java/lang/System.arraycopy", "java/lang/String.indexOf", "java/lang/Math.max", "java/lang/Math.min",
         "java/lang/Math.abs", "java/lang/Integer.bitCount", "java/lang/Long.bitCount");
 
+    private static final Pattern BARRED = Pattern.compile(
+        "->|::|\\b(try|catch|finally|synchronized|assert|package|volatile|transient|native|instanceof|Object|"
+        + "equals|hashCode|toString|Exception e|System\\.(?!arraycopy))\\b|\" \\+|\\+ \"");
+    private static final Pattern METHOD = Pattern.compile("( {4}| {8})[a-zA-Z][^=;]*\\)( throws \\w+)? \\{");
+    private static final int MOST_LINES = 60;
     private static final int MOST_OBJECTS = 300;
     private static final int MOST_ELEMENTS = 6000;
 
@@ -40,6 +49,8 @@ public final class LanguageTest {
         classesInside();
         staticFields();
         library();
+        words();
+        lengths();
         room();
         callsMakeNothing();
         Check.close("LanguageTest");
@@ -151,6 +162,46 @@ public final class LanguageTest {
             }
         }
         return used;
+    }
+
+    private static List<String> source() throws IOException {
+        return Files.readAllLines(Path.of("src", "main", "java", "BonnetValley.java"));
+    }
+
+    /** Rules 1, 3, 6 and 10: what may not stand in the code, comments aside. */
+    private static void words() throws IOException {
+        List<String> imports = new ArrayList<>();
+        for (String line : source()) {
+            String code = line.replaceAll("//.*|/\\*\\*.*|^ *\\*.*", "");
+            Check.due("may not stand: " + line, BARRED.matcher(code).find(), false);
+            Check.due("no sign beyond 127: " + line, line.chars().allMatch(c -> c < 128), true);
+            if (code.startsWith("import")) {
+                imports.add(code);
+            }
+        }
+        Check.due(imports + " are imported",
+            imports.equals(List.of("import java.util.Arrays;", "import java.util.NoSuchElementException;")), true);
+    }
+
+    /** Rule 11: some sixty lines a method. */
+    private static void lengths() throws IOException {
+        int methods = 0;
+        String end = "";
+        int length = 0;
+        for (String line : source()) {
+            Matcher m = METHOD.matcher(line);
+            if (end.isEmpty() && m.matches()) {
+                methods++;
+                end = m.group(1) + "}";
+                length = 0;
+            }
+            length++;
+            if (line.equals(end)) {
+                Check.due("a method of " + length + " lines", length <= MOST_LINES, true);
+                end = "";
+            }
+        }
+        Check.due("methods were found: " + methods, methods > 150, true);
     }
 
     private static void room() throws IllegalAccessException {
